@@ -29,11 +29,11 @@ public final class SamePassers {
     private static final int TAPE_SIGNS = 1000;
 
     private final Tape tape = new Tape();
-    private final Reader reader = new Reader(tape);
     private Street street = new Street();
     private Street draftStreet = new Street();
     private Script script = new Script();
     private Script draftScript = new Script();
+    private final Reader reader = new Reader(tape, draftStreet, draftScript);
     private final Hands hands = new Hands();
     private final Hands trial = new Hands();
     private final Papers papers = new Papers();
@@ -45,7 +45,7 @@ public final class SamePassers {
     private int markedBits;
     private final Walks now = new Walks(street);
     private final Walks here = new Walks(street);
-    private final LagSearch lagSearch = new LagSearch();
+    private final LagSearch lagSearch = new LagSearch(street);
     private final Film film = new Film();
 
     public SamePassers() {
@@ -785,8 +785,10 @@ public final class SamePassers {
         private int index;
         private long name;
 
-        Reader(Tape tape) {
+        Reader(Tape tape, Street street, Script script) {
             this.tape = tape;
+            this.street = street;
+            this.script = script;
         }
 
         int readStreet(Street draft) {
@@ -1647,6 +1649,10 @@ public final class SamePassers {
         private Street street;
         final int[] best = new int[MOST];
         int bestSum;
+
+        LagSearch(Street street) {
+            this.street = street;
+        }
 
         boolean find(Street told, Walks walks, int walkers) {
             street = told;
