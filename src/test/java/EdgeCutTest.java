@@ -192,6 +192,15 @@ public final class EdgeCutTest {
         lagsDue(none, 3, -1, -1, -1);
     }
 
+    static void p20_lags_aBumpIsPutOffBeyond600IfBothWait() {
+        // One must wait 6; he is then at cell 1 till 590, at 2 till 595, at 3 till 600: the other one, 18 late, would be at 3 at 601.
+        String ground = WIDE + "say go at 580;say end at 590;";
+        String quick = "0 from 0 right pace 1 lag 0 on go";
+        String slow = "0 from 1 right pace 5 lag 0 on go";
+        lagsDue(Edges.told(ground + walker("aa", quick) + walker("bb", slow) + "must bb end 1;"), 3, 24, 18, 6);
+        lagsDue(Edges.told(ground + walker("aa", slow) + walker("bb", quick) + "must aa end 1;"), 3, 24, 6, 18);
+    }
+
     static void p20_lags_leaveAllAsItWas() {
         Edges.leavesAll("lags(1, 0)", x -> x.lags(1, 0), Edges.rich().lags(1, 0));
         Edges.leavesAll("lags(7, 0)", x -> x.lags(7, 0), Edges.rich().lags(7, 0));

@@ -395,8 +395,8 @@ public final class EdgeHandsTest {
         Edges.due("TOLD", x.count(7), 0);
         Edges.due("SIGHTS", x.count(8), 0);
         Edges.due("laws", Check.laws(x, -1), 6010);
-        x.tell(0, 1);
-        x.sight(0, 0, false);
+        x.tell(7, 1);
+        x.sight(77, 3, false);
         x.mark(1, true);
         Edges.due("TOLD", x.count(7), 10);
         Edges.due("an eleventh", x.tell(0, 600), false);
@@ -404,8 +404,33 @@ public final class EdgeHandsTest {
         Edges.due("an eleventh", x.sight(0, 0, true), false);
         Edges.due("laws", Check.laws(x, -2), 9600);
         Edges.due("hired", x.hired(-1), 1);
-        Edges.due("hired(9)", x.hired(9), -1);
-        Edges.due("hired(8)", x.hired(8), 9);
+        Edges.rowDue("hired", x::hired, 1, 2, 3, 4, 5, 6, 7, 8, 9, -1);
+    }
+
+    static void p35_mark_eachThingOnItIsItsOwn() {
+        // Of two SIGHTS and two things TOLD one number alone is another one each time.
+        int[][] others = {{8, 50, 0, 2}, {0, 51, 0, 2}, {0, 50, 30, 2}, {0, 50, 0, 6}};
+        for (int[] other : others) {
+            SamePassers x = Edges.told(Portrait.STREET);
+            SamePassers y = Edges.told(Portrait.STREET);
+            for (SamePassers each : new SamePassers[] {x, y}) {
+                each.mark(0, false);
+                each.tell(0, 50);
+                each.sight(0, 2, true);
+                each.mark(1, false);
+            }
+            x.mark(0, true);
+            x.tell(other[0], other[1]);
+            x.sight(other[2], other[3], true);
+            for (SamePassers each : new SamePassers[] {x, y}) {
+                Edges.due("mark(1, true)", each.mark(1, true), true);
+                each.tell(2, 46);
+                each.sight(20, 5, true);
+            }
+            Edges.due("laws", Check.laws(x, -2), 2050);
+            Edges.due("hired", x.hired(0), 1);
+            Edges.sameDue("gone back to", x, y);
+        }
     }
 
     static void p35_mark_laidAnewIsWrittenOver() {

@@ -540,6 +540,18 @@ public final class EdgePapersTest {
         daysDue(thereIfLate(7), 0, 20, 0, 20, 0);
     }
 
+    static void p34_days_theBestMissesSevenOfEightMusts() {
+        // By 1 aa is late by 3 in the third take, and there on one word then; all else is missed in all takes.
+        StringBuilder text = new StringBuilder("street 40 lanes 2 frame 0 to 39 sharp 1;say ww at 20;say wb at 1;say wc at 2;say wd at 3;say we at 4;say wf at 5;"
+            + "walker aa pram lane 0 from 0 right pace 1 lag 0;walker bb pram lane 1 from 0 right pace 9 lag 99;must aa ww 17;must aa wb 39;must bb ww 39;");
+        for (char word = 'b'; word <= 'f'; word++) {
+            text.append("must bb w").append(word).append(" 39;");
+        }
+        SamePassers x = Edges.told(text.toString());
+        daysDue(x, 1, 2, 0, 16, 0);
+        daysDue(x, 1, 3, 0, 23, 2);
+    }
+
     static void p34_days_withNobodyAllAreGood() {
         daysDue(new SamePassers(), 0, 1, 1, 0, 0);
         daysDue(new SamePassers(), 9999, 20, 20, 0, 0);

@@ -461,6 +461,8 @@ public final class EdgeStreetTest {
     static void p03_name_unlikeInALetterOrItsLengthIsAnother() {
         Edges.well(BASE + "say w at 5;say www at 5;say wv at 5;say vw at 5;walker a dog lane 0 from 0 left pace 1 lag 0;");
         Edges.well(GROUND + "say abcdefgh at 5;say abcdefgi at 5;say bbcdefgh at 5;say abcdefg at 5;");
+        Edges.well(GROUND + "say a at 5;say aa at 5;say b at 5;say ba at 5;say ab at 5;say aaa at 5;");
+        Edges.well(GROUND + "say z at 5;say zz at 5;say az at 5;say za at 5;say y at 5;say yz at 5;");
     }
 
     // "FAULTS, kind + 16 * the place (from 0) of a token, the end being one at the text's length"
@@ -633,6 +635,19 @@ public final class EdgeStreetTest {
         Edges.due("known by the new odd", x.walker(0, 9), 7);
         Check.street(x, "street 4 lanes 1 frame 1 to 2 sharp 0;walker aa plain lane 0 from 3 right pace 1 lag 0;");
         Edges.due("known without odd", x.walker(0, 9), 10);
+    }
+
+    static void p03_anew_toldAgainAndAgainIsTheSame() {
+        String full = musts(8) + "round 0;quick 9;odd 9;";
+        SamePassers x = new SamePassers();
+        for (int i = 0; i < 3; i++) {
+            Edges.due("street", Check.street(x, full), 0);
+        }
+        for (int i = 0; i < 2; i++) {
+            Edges.due("street with a FAULT at its end", Check.street(x, full + "x"), 1 + 16L * full.length());
+        }
+        Edges.due("street", Check.street(x, Portrait.STREET), 0);
+        Edges.sameDue("told at last", x, Edges.told(Portrait.STREET));
     }
 
     static void p03_anew_namesOfTheOldStreetAreFree() {

@@ -266,6 +266,11 @@ public final class EdgeTakesTest {
         judgedDue(told("turn ann;take;take;turn ann;take;"), 1, 1, 3);
     }
 
+    static void p12_judged_turnsOfOneWhoGoesToTheLeft() {
+        String left = STREET.replace("right", "left");
+        judgedDue(told(left, "take;turn ann;take;turn ann;take;turn ann;take;"), 0, 2, 4);
+    }
+
     static void p12_judged_aBumpMakesATakeNotGood() {
         String two = STREET + "walker bob pram lane 0 from 9 right pace 1 lag 0;";
         judgedDue(told(two, "take;start bob 0;take;start bob 1;take;"), 2, 2, 3);

@@ -3,6 +3,8 @@ import java.util.Random;
 
 /** Runs of calls, drawn by fixed seeds, held against Plain call by call. */
 public final class PlainTest {
+    /** What an object answers beyond its 512th call is free; no turn of the run makes more than 100 calls. */
+    private static final int LAST_TURN = 512 - 100;
     private static final String[] KINDS = {"plain", "pram", "dog", "stray"};
     private static final String[] PIECES = {"street", "lanes", "frame", "to", "sharp", "say", "at", "walker", "lane",
         "from", "pace", "lag", "on", "must", "round", "quick", "odd", "start", "turn", "late", "take", "left",
@@ -14,6 +16,7 @@ public final class PlainTest {
     private final SamePassers real = new SamePassers();
     private final Plain plain = new Plain();
     private final StringBuilder log = new StringBuilder();
+    private int made;
     private int words;
     private int people;
     private int cells = 4;
@@ -28,7 +31,7 @@ public final class PlainTest {
     }
 
     public static void main(String[] args) {
-        int runs = args.length > 0 ? Integer.parseInt(args[0]) : 150;
+        int runs = args.length > 0 ? Integer.parseInt(args[0]) : 180;
         int from = args.length > 1 ? Integer.parseInt(args[1]) : 0;
         for (int seed = from; seed < from + runs && wrong < 5; seed++) {
             PlainTest test = new PlainTest(seed);
@@ -52,13 +55,17 @@ public final class PlainTest {
 
     private void run(long seed) {
         for (int i = 0; i < 3 && wrong == 0; i++) {
-            if (random.nextInt(4) > 0) {
+            if (random.nextInt(4) > 0 && made < LAST_TURN) {
                 readStreet(random.nextInt(3) == 0);
             }
             int many = 20 + random.nextInt(30);
-            for (int k = 0; k < many && wrong == 0; k++) {
+            for (int k = 0; k < many && wrong == 0 && made < LAST_TURN; k++) {
                 call(random.nextInt(34));
             }
+        }
+        if (made > 512) {
+            wrong++;
+            System.out.println("seed " + seed + " made " + made + " calls");
         }
         if (wrong > 0) {
             System.out.println("seed " + seed + "\n" + log);
@@ -86,6 +93,7 @@ public final class PlainTest {
 
     private void same(String call, long got, long want) {
         calls++;
+        made++;
         log.append(call).append(" -> ").append(got).append('\n');
         if (got != want) {
             wrong++;
