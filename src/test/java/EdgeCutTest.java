@@ -514,6 +514,12 @@ public final class EdgeCutTest {
         Edges.due("change(0, 0) of a new object", new SamePassers().change(0, 0), -1);
     }
 
+    static void p26_change_leavesAllAsItWas() {
+        Edges.leavesAll("change(0, 40)", x -> x.change(0, 40), Edges.rich().change(0, 40));
+        Edges.leavesAll("change(0, 41)", x -> x.change(0, 41), -1);
+        Edges.leavesAll("change(3, 0)", x -> x.change(3, 0), -1);
+    }
+
     // "OTHER side: .. the cell as far from the frame's other end; his lane from behind"; promise 27: "-2: others"
 
     static void p27_other_atTheEdgesOfTheFrame() {
@@ -577,6 +583,13 @@ public final class EdgeCutTest {
         Edges.due("take 1", x.other(0, 0, 0), 6);
     }
 
+    static void p27_other_leavesAllAsItWas() {
+        Edges.leavesAll("other(0, 1, 0)", x -> x.other(0, 1, 0), Edges.rich().other(0, 1, 0));
+        Edges.leavesAll("other(0, 1, 2)", x -> x.other(0, 1, 2), -2);
+        Edges.leavesAll("other(0, 2, 0)", x -> x.other(0, 2, 0), -2);
+        Edges.leavesAll("other(3, 0, 0)", x -> x.other(3, 0, 0), -2);
+    }
+
     // "NOTES in so many seconds (0 to 30) .. each takes one second and as many as his lane"; promise 30: "NONE: others, no word"
 
     /** On the word at 40 one of pace p has gone 40 / p cells in take 0, 40 / (p + 1) in take 1. */
@@ -632,6 +645,14 @@ public final class EdgeCutTest {
     static void p30_notes_whoJumpsBy0IsLeftOut() {
         SamePassers x = inTake1(walker("aa", "0 from 5 right pace 2 lag 99") + walker("bb", "0 from 0 right pace 2 lag 0"));
         Edges.due("notes(30)", x.notes(30), 2);
+    }
+
+    static void p30_notes_whoJumpsBy1IsWorth1() {
+        // On the word at 40 he is at cell 5 in take 0, at 4 in take 1.
+        SamePassers x = inTake1(walker("aa", "0 from 0 right pace 8 lag 0"));
+        Edges.due("jump", x.jump(0, 0, 0, 1, 0), 1);
+        Edges.due("notes(1)", x.notes(1), 1);
+        Edges.due("notes(0)", x.notes(0), 0);
     }
 
     static void p30_notes_of8InTheLastLaneOnly7FitIn30() {

@@ -123,6 +123,11 @@ public final class EdgeWalkTest {
         Edges.due("tenth(0) of a new object", new SamePassers().tenth(0), -1);
     }
 
+    static void p06_tenth_leavesAllAsItWas() {
+        Edges.leavesAll("tenth(1)", x -> x.tenth(1), 40);
+        Edges.leavesAll("tenth(2)", x -> x.tenth(2), -1);
+    }
+
     // "a WALKER stands where he starts till his cue: the tenth of his word .., his lag and by how much he is late together"
 
     static void p13_where_heStandsTillHisCueAndATempo() {
@@ -255,6 +260,12 @@ public final class EdgeWalkTest {
         Edges.due("where(0, 0) of a new object", new SamePassers().where(0, 0), -1);
     }
 
+    static void p13_where_leavesAllAsItWas() {
+        Edges.leavesAll("where(0, 600)", x -> x.where(0, 600), Edges.rich().where(0, 600));
+        Edges.leavesAll("where(0, 601)", x -> x.where(0, 601), -1);
+        Edges.leavesAll("where(3, 0)", x -> x.where(3, 0), -1);
+    }
+
     static void p13_where_onTheLongestStreet() {
         SamePassers x = Edges.told("street 40 lanes 1 frame 0 to 39 sharp 1;walker aa plain lane 0 from 0 right pace 9 lag 0;round 99;");
         whereDue(x, 0, 0, 359, 39, 360, -1, 458, -1, 459, 0, 600, 15);
@@ -305,6 +316,12 @@ public final class EdgeWalkTest {
             Edges.due("seen(" + far + ", 0)", x.seen(far, 0), -1);
         }
         Edges.due("seen(0, 0) of a new object", new SamePassers().seen(0, 0), -1);
+    }
+
+    static void p14_seen_leavesAllAsItWas() {
+        Edges.leavesAll("seen(0, 600)", x -> x.seen(0, 600), Edges.rich().seen(0, 600));
+        Edges.leavesAll("seen(0, 601)", x -> x.seen(0, 601), -1);
+        Edges.leavesAll("seen(3, 0)", x -> x.seen(3, 0), -1);
     }
 
     // "BUMP: two of one lane at one cell"; promise 15: "FIRST; NONE: others, the same, never"
@@ -367,6 +384,12 @@ public final class EdgeWalkTest {
         Edges.due("first of a new object", new SamePassers().first(0, 1), -1);
     }
 
+    static void p15_first_leavesAllAsItWas() {
+        Edges.leavesAll("first(1, 2)", x -> x.first(1, 2), Edges.rich().first(1, 2));
+        Edges.leavesAll("first(1, 1)", x -> x.first(1, 1), -1);
+        Edges.leavesAll("first(1, 3)", x -> x.first(1, 3), -1);
+    }
+
     // "A take is GOOD if on their words all who must be at a cell are there, and no two BUMP in tenths 0 to 600"
 
     static void p16_good_withNobodyAndNoMusts() {
@@ -393,6 +416,10 @@ public final class EdgeWalkTest {
         Edges.due("all eight apart", x.good(), true);
         x.start(7, 6);
         Edges.due("the last two at one cell", x.good(), false);
+    }
+
+    static void p16_good_leavesAllAsItWas() {
+        Edges.leavesAll("good", x -> Edges.asLong(x.good()), 0);
     }
 
     // "OFF of a must: how many cells he is away on that word (100 if gone)"; promise 17: "NONE: others"
@@ -435,6 +462,11 @@ public final class EdgeWalkTest {
             text.append("must p").append((char) ('a' + i)).append(" ww 0;");
         }
         Edges.rowDue("off", Edges.told(text.toString())::off, 0, 1, 2, 3, 4, 5, 6, 7, -1);
+    }
+
+    static void p17_off_leavesAllAsItWas() {
+        Edges.leavesAll("off(1)", x -> x.off(1), Edges.rich().off(1));
+        Edges.leavesAll("off(2)", x -> x.off(2), -1);
     }
 
     // Promise 18: "In how many takes OFF by so many cells (1 to 100); NONE: others, not within 60"
@@ -551,6 +583,10 @@ public final class EdgeWalkTest {
         Edges.due("seven", unknown(7, "9"), 0);
     }
 
+    static void p19_unknown_leavesAllAsItWas() {
+        Edges.leavesAll("unknown", x -> x.unknown(), Edges.rich().unknown());
+    }
+
     // Promise 24: "Cells of a lane where somebody is at a tenth, as bits; NONE: others"
 
     static void p24_row_cell0AndCell39() {
@@ -586,6 +622,12 @@ public final class EdgeWalkTest {
         Edges.due("row(0, MAX)", x.row(0, Integer.MAX_VALUE), -1);
     }
 
+    static void p24_row_leavesAllAsItWas() {
+        Edges.leavesAll("row(1, 600)", x -> x.row(1, 600), Edges.rich().row(1, 600));
+        Edges.leavesAll("row(1, 601)", x -> x.row(1, 601), -1);
+        Edges.leavesAll("row(2, 0)", x -> x.row(2, 0), -1);
+    }
+
     // "WRONG: WALKERS that are sharp on no word"
 
     static void p25_wrong_ofNobodyIs0() {
@@ -613,6 +655,10 @@ public final class EdgeWalkTest {
             + "walker ee pram lane 0 from 5 left pace 2 lag 0;");
         // Sharp: aa on wb, bb on wa, cc on wc; dd is blurred on wa, ee in the frame at 2 and 3 alone.
         Edges.due("wrong", x.wrong(), 24);
+    }
+
+    static void p25_wrong_leavesAllAsItWas() {
+        Edges.leavesAll("wrong", x -> x.wrong(), Edges.rich().wrong());
     }
 
     // Promise 31: "WHOSE, as bits; NONE: others"
@@ -654,6 +700,13 @@ public final class EdgeWalkTest {
         Edges.due("whose(3, 0, 601)", x.whose(3, 0, 601), -1);
         Edges.due("whose(3, 0, MIN)", x.whose(3, 0, Integer.MIN_VALUE), -1);
         Edges.due("whose(3, 0, MAX)", x.whose(3, 0, Integer.MAX_VALUE), -1);
+    }
+
+    static void p31_whose_leavesAllAsItWas() {
+        Edges.leavesAll("whose(8, 1, 0)", x -> x.whose(8, 1, 0), 2);
+        Edges.leavesAll("whose(10, 1, 0)", x -> x.whose(10, 1, 0), -1);
+        Edges.leavesAll("whose(8, 2, 0)", x -> x.whose(8, 2, 0), -1);
+        Edges.leavesAll("whose(8, 1, 601)", x -> x.whose(8, 1, 601), -1);
     }
 
     static void p31_whose_nobodyIsWhereOneIsGone() {
