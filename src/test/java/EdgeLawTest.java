@@ -108,6 +108,11 @@ public final class EdgeLawTest {
         Edges.fault(QUICK, "- 1;", 1);
         Edges.fault(QUICK, "+ 1;", 1);
         Edges.fault(QUICK + "1 + ", "- 1;", 1);
+        // A fact before it does not make a sign, or none, a fact.
+        for (String sign : new String[] {"+ 1;", ";", ") ;", "A;", "12345;", "abcdefghi;", "and 1;"}) {
+            Edges.fault(QUICK + "tempo - ", sign, 1);
+            Edges.fault(ODD + "passes * ", sign, 1);
+        }
         Edges.fault(QUICK + "2 * ", "* 2;", 1);
         Edges.fault(QUICK + "2 * ", "< 2;", 1);
     }
@@ -133,6 +138,7 @@ public final class EdgeLawTest {
         Edges.fault(QUICK + "1 ", "2;", 1);
         Edges.fault(QUICK + "tempo ", "nth;", 1);
         Edges.fault(QUICK + "1 ", "not 2;", 1);
+        Edges.fault(QUICK + "tempo ", "tempo;", 1);
         Edges.fault(QUICK + "1 ", "( 2 );", 1);
     }
 
@@ -246,6 +252,10 @@ public final class EdgeLawTest {
         valueDue("not 1", 0);
         valueDue("not 7", 0);
         valueDue("not (0 - 1)", 0);
+        // A not that begins an E, with nothing before it.
+        tempoDue("not 7", 1);
+        tempoDue("not 0 + 5", 6);
+        tempoDue("not 3 + 5", 5);
     }
 
     static void p03_law_andIsSoOfBothThatAreNot0() {

@@ -436,6 +436,23 @@ public final class EdgePapersTest {
         Edges.rowDue("hired", x::hired, -1, -1, 0, 1);
     }
 
+    /** Who is whose next one where a choice must be taken back through several others. */
+    private static void chainDue(int men, int[] pairs, long... next) {
+        SamePassers x = Edges.told("street 40 lanes 1 frame 0 to 39 sharp 1;round 20;");
+        for (int i = 0; i + 1 < pairs.length; i += 2) {
+            x.sight(pairs[i], pairs[i + 1], true);
+        }
+        Edges.due("hired(-1)", x.hired(-1), men);
+        Edges.rowDue("hired", x::hired, next);
+    }
+
+    static void p33_hired_aChoiceIsTakenBackThroughSeveralOthers() {
+        chainDue(3, new int[] {184, 33, 118, 23, 42, 11, 144, 26, 51, 17, 121, 31, 57, 21, 103, 25, 58, 29}, -1, 0, 4, -1, 6, -1, 3, 5, 1);
+        chainDue(3, new int[] {171, 11, 79, 27, 19, 3, 86, 37, 43, 23, 36, 27, 67, 18}, -1, 0, 4, -1, 1, 3, -1);
+        chainDue(3, new int[] {61, 19, 154, 14, 144, 30, 177, 29, 85, 39, 119, 26, 71, 18, 98, 25}, 4, 3, -1, -1, 1, 2, 5, -1);
+        chainDue(3, new int[] {12, 2, 53, 2, 68, 16, 124, 35, 33, 7, 20, 30, 32, 18, 70, 25}, 4, 2, 3, -1, 7, 1, -1, -1);
+    }
+
     static void p33_hired_noneStandsBehindAllNumbers() {
         SamePassers x = road();
         // One of the first two has no next one: the first has one.

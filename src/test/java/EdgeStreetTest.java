@@ -493,6 +493,10 @@ public final class EdgeStreetTest {
         Edges.fault("street ", "3 lanes 9 x", 4);
         Edges.fault(BASE + "say ", "ww at 601;street", 3);
         Edges.fault(BASE + "must ", "xx yy 9;", 2);
+        Edges.fault(BASE + "must aa ", "vv 9;", 2);
+        Edges.fault(BASE + "must aa ", "5 vv;", 1);
+        Edges.fault(BASE + "say vv at ", "601 walker", 4);
+        Edges.fault(BASE + "walker ", "aa cat lane 9", 3);
         Edges.fault(BASE + "quick ", "x;round 100;", 1);
     }
 
