@@ -23,6 +23,7 @@ public final class SamePassers {
     private static final int MARKS = 4;
     private static final int OFF_IF_GONE = 100;
     private static final int BEST_TAKES = 12;
+    private static final int BEYOND_JUMPS = MOST_WALKERS * MOST_CELLS + 1;
     private static final int MOST_SECONDS = 30;
     private static final int MOST_DAYS = 20;
     private static final int LAST_SEED = 9999;
@@ -273,7 +274,7 @@ public final class SamePassers {
         if (!isWord(word) || what < 0 || what > 2) {
             return NONE;
         }
-        int least = Integer.MAX_VALUE;
+        int least = BEYOND_JUMPS;
         int bestOne = 0;
         int bestOther = 0;
         for (int shot = 0; shot < BEST_TAKES; shot++) {
@@ -1639,6 +1640,7 @@ public final class SamePassers {
     private static final class LagSearch {
         static final int MOST = 4;
         private static final int LAGS = 24;
+        private static final int BEYOND_LAGS = MOST * LAGS;
 
         private final int[] chosen = new int[MOST];
         private final int[][] rows = new int[MOST][LAST_TENTH + 1];
@@ -1666,9 +1668,9 @@ public final class SamePassers {
                 }
             }
             fillTogether();
-            bestSum = Integer.MAX_VALUE;
+            bestSum = BEYOND_LAGS;
             search(0, 0);
-            return bestSum != Integer.MAX_VALUE;
+            return bestSum != BEYOND_LAGS;
         }
 
         // A lag only shifts the way a WALKER goes, so the row without a lag is enough for all lags.

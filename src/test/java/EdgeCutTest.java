@@ -404,6 +404,30 @@ public final class EdgeCutTest {
         bestDue(x, 0, 0, 0, 11);
     }
 
+    // Eight stand at 0 or walk to 39; from take to take four of them change, so that any two takes are that far apart.
+    private static SamePassers farApart() {
+        int[] changes = {0b11110000, 0b11001100, 0b10101010, 0b11111111};
+        StringBuilder text = new StringBuilder(WIDE + "say ww at 39;");
+        StringBuilder slow = new StringBuilder();
+        for (int i = 0; i < 8; i++) {
+            text.append(walker("p" + (char) ('a' + i), "0 from 0 right pace " + (i + 1) + " lag 0"));
+            slow.append(i > 0 ? "+" : "").append("(tempo=").append(i + 1).append(")*(0");
+            boolean stands = false;
+            for (int take = 1; take < 12; take++) {
+                if ((changes[Integer.numberOfTrailingZeros(take)] >> i & 1) != 0) {
+                    slow.append(stands ? "-" : "+").append("(").append(take - 1).append("<nth)");
+                    stands = !stands;
+                }
+            }
+            slow.append(")");
+        }
+        return Edges.told(text + "quick 1+98*(" + slow + ");");
+    }
+
+    static void p23_best_theLeastOfEightFarApart() {
+        bestDue(farApart(), 0, 156, 0, 1);
+    }
+
     static void p23_best_ofNobody() {
         bestDue(Edges.told(WIDE + "say ww at 0;"), 0, 0, 0, 1);
     }
